@@ -362,21 +362,27 @@ public final class BlockExchange {
             return hasSlot(slot) ? sizes[slot] : NOTHING;
         }
 
+        int kindAt(int slot) {
+            if (slot < 0 || slot >= count || sizes[slot] < 1) {
+                return NOTHING;
+            }
+            return cells[slot * Form.BLOCK_ROOM];
+        }
+
         int byteAt(int slot, int i) {
-            return hasByte(slot, i) ? cells[slot * Form.BLOCK_ROOM + i] : NOTHING;
+            if (slot < 0 || slot >= count || i < 0 || i >= sizes[slot]) {
+                return NOTHING;
+            }
+            return cells[slot * Form.BLOCK_ROOM + i];
         }
 
         /** Two bytes as one number, the low one first. */
         int pairAt(int slot, int i) {
-            if (!hasByte(slot, i) || !hasByte(slot, i + 1)) {
+            if (slot < 0 || slot >= count || i < 0 || i >= sizes[slot] - 1) {
                 return NOTHING;
             }
             int place = slot * Form.BLOCK_ROOM + i;
             return cells[place] + 256 * cells[place + 1];
-        }
-
-        boolean hasByte(int slot, int i) {
-            return slot >= 0 && slot < count && i >= 0 && i < sizes[slot];
         }
 
         void append(int name, int[] row, int from, int size) {
@@ -401,14 +407,14 @@ public final class BlockExchange {
         }
 
         void changeByte(int slot, int i, int b) {
-            if (hasByte(slot, i)) {
+            if (byteAt(slot, i) != NOTHING) {
                 cells[slot * Form.BLOCK_ROOM + i] = b;
                 names[slot] = nameOf(cells, slot * Form.BLOCK_ROOM, sizes[slot]);
             }
         }
 
         boolean hasSameBytes(int slot, int[] row, int from, int size) {
-            if (sizeAt(slot) != size) {
+            if (!hasSlot(slot) || sizes[slot] != size) {
                 return false;
             }
             for (int i = 0; i < size; i++) {
@@ -420,7 +426,7 @@ public final class BlockExchange {
         }
 
         boolean hasSameBlock(int slot, Shelf other, int otherSlot) {
-            return other.hasSlot(otherSlot) && hasSlot(slot)
+            return other.hasSlot(otherSlot)
                     && hasSameBytes(slot, other.cells, otherSlot * Form.BLOCK_ROOM, other.sizes[otherSlot]);
         }
 
@@ -460,7 +466,7 @@ public final class BlockExchange {
 
         static boolean isBlock(Shelf shelf, int slot) {
             int size = shelf.sizeAt(slot);
-            int kind = shelf.byteAt(slot, 0);
+            int kind = shelf.kindAt(slot);
             if (kind == LEAF) {
                 return size <= 1 + CONTENT_MOST;
             }
@@ -481,37 +487,33 @@ public final class BlockExchange {
         }
 
         private static boolean hasGoodParts(Shelf shelf, int slot, int kind) {
-            int lastTitle = 0;
             for (int i = 0; i < partCount(shelf, slot); i++) {
-                if (!isName(linkAt(shelf, slot, i)) || (kind == TREE && partSize(shelf, slot, i) < 1)) {
+                if (!isName(linkAt(shelf, slot, i))) {
                     return false;
                 }
-                if (kind == FOLDER) {
-                    if (partTitle(shelf, slot, i) <= lastTitle) {
-                        return false;
-                    }
-                    lastTitle = partTitle(shelf, slot, i);
+                if (kind == TREE && partSize(shelf, slot, i) < 1) {
+                    return false;
+                }
+                int titleBefore = i == 0 ? 0 : partTitle(shelf, slot, i - 1);
+                if (kind == FOLDER && partTitle(shelf, slot, i) <= titleBefore) {
+                    return false;
                 }
             }
             return true;
         }
 
-        static int kindAt(Shelf shelf, int slot) {
-            return shelf.byteAt(slot, 0);
-        }
-
         static boolean isFile(Shelf shelf, int slot) {
-            int kind = kindAt(shelf, slot);
+            int kind = shelf.kindAt(slot);
             return kind == LEAF || kind == TREE;
         }
 
         static boolean isFolderOrShard(Shelf shelf, int slot) {
-            int kind = kindAt(shelf, slot);
+            int kind = shelf.kindAt(slot);
             return kind == FOLDER || kind == SHARD;
         }
 
         static int partCount(Shelf shelf, int slot) {
-            switch (kindAt(shelf, slot)) {
+            switch (shelf.kindAt(slot)) {
                 case TREE:
                 case FOLDER:
                     return shelf.byteAt(slot, 1);
@@ -523,7 +525,7 @@ public final class BlockExchange {
         }
 
         static int linkAt(Shelf shelf, int slot, int i) {
-            int kind = kindAt(shelf, slot);
+            int kind = shelf.kindAt(slot);
             if (kind <= LEAF || kind > SHARD) {
                 return NOTHING;
             }
@@ -542,7 +544,7 @@ public final class BlockExchange {
             if (!isFile(shelf, slot)) {
                 return NOTHING;
             }
-            if (kindAt(shelf, slot) == LEAF) {
+            if (shelf.kindAt(slot) == LEAF) {
                 return shelf.sizeAt(slot) - 1;
             }
             int sum = 0;
@@ -570,7 +572,7 @@ public final class BlockExchange {
                 return NOTHING;
             }
             for (int followed = 0; followed <= FILE_LINKS_MOST; followed++) {
-                if (Form.kindAt(shelf, slot) == Form.LEAF) {
+                if (shelf.kindAt(slot) == Form.LEAF) {
                     return shelf.byteAt(slot, 1 + rest);
                 }
                 int part = 0;
@@ -592,7 +594,7 @@ public final class BlockExchange {
             if (!Form.isFolderOrShard(shelf, slot)) {
                 return NOTHING;
             }
-            for (int s = 0; s < SHARDS_MOST && Form.kindAt(shelf, slot) == Form.SHARD; s++) {
+            for (int s = 0; s < SHARDS_MOST && shelf.kindAt(slot) == Form.SHARD; s++) {
                 int mask = shelf.byteAt(slot, 1);
                 int way = Form.wayOf(title, s);
                 if (((mask >> way) & 1) == 0) {
@@ -601,7 +603,7 @@ public final class BlockExchange {
                 int linksBefore = Integer.bitCount(mask & ((1 << way) - 1));
                 slot = shelf.slotOf(Form.linkAt(shelf, slot, linksBefore));
             }
-            return Form.kindAt(shelf, slot) == Form.FOLDER ? linkOfTitle(shelf, slot, title) : BROKEN;
+            return shelf.kindAt(slot) == Form.FOLDER ? linkOfTitle(shelf, slot, title) : BROKEN;
         }
 
         private static int linkOfTitle(Shelf shelf, int slot, int title) {
@@ -1179,11 +1181,12 @@ public final class BlockExchange {
         }
 
         boolean damage(int k, int i, int x) {
-            // Only a GIVE has bytes.
-            if (!rows.hasByte(k, i)) {
+            // Of all messages only a GIVE has bytes.
+            int old = rows.byteAt(k, i);
+            if (old == NOTHING) {
                 return false;
             }
-            rows.changeByte(k, i, rows.byteAt(k, i) ^ (x & BYTE_MOST));
+            rows.changeByte(k, i, old ^ (x & BYTE_MOST));
             return true;
         }
     }

@@ -9,6 +9,7 @@ public final class AddTest {
         cutsByContent(check);
         levels(check);
         sameBlocks(check);
+        nameZero(check);
         wrongNumbers(check);
         collisions(check);
         room(check);
@@ -119,6 +120,16 @@ public final class AddTest {
         check.due("add of what is there", x.add(0, 1, 4), Check.nameOf(0, 6));
         check.due("blocks(0)", x.blocks(0), 4);
         check.due("name()", x.name(), 40503);
+    }
+
+    private static void nameZero(Check check) {
+        check.part("a file of the name 0");
+        BlockExchange x = new BlockExchange();
+        int[] row = Check.leafNamed(0);
+        Check.typeAll(x, java.util.Arrays.copyOfRange(row, 1, row.length));
+        check.due("add(0, 8, 2)", x.add(0, 8, 2), 0);
+        check.due("name() after it", x.name(), 40503);
+        check.due("read", x.read(0, 0, 2), row[3]);
     }
 
     private static void wrongNumbers(Check check) {

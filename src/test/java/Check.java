@@ -104,14 +104,30 @@ final class Check {
 
     /** A leaf that is not this row and has its name. */
     static int[] twinLeaf(int... row) {
-        int want = nameOf(row);
+        return leafNamed(nameOf(row), row);
+    }
+
+    /** A leaf of that name that is not this row. */
+    static int[] leafNamed(int name, int... not) {
         for (int i = 0; i < 256 * 256 * 256; i++) {
-            int[] twin = leaf(i & 255, i >> 8 & 255, i >> 16);
-            if (nameOf(twin) == want && !java.util.Arrays.equals(twin, row)) {
-                return twin;
+            int[] row = leaf(i & 255, i >> 8 & 255, i >> 16);
+            if (nameOf(row) == name && !java.util.Arrays.equals(row, not)) {
+                return row;
             }
         }
-        throw new IllegalStateException("no twin");
+        throw new IllegalStateException("no leaf");
+    }
+
+    /** Makes a folder that must come in, of at most four links at the titles 1, 2 ..: its name. */
+    static int putFolder(BlockExchange x, int store, int... links) {
+        for (int i = 0; i < links.length; i++) {
+            x.entry(1 + i, links[i]);
+        }
+        int name = x.folder(store);
+        if (name < 0) {
+            throw new IllegalStateException("folder answered " + name);
+        }
+        return name;
     }
 
     /** A tree of two parts whose first link is its own name and whose second one is given. */

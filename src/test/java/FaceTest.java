@@ -88,7 +88,7 @@ public final class FaceTest {
         x.pin(0, file, true, true);
         x.collect(0);
         x.fetch(2, 0, file);
-        for (int i = 0; i < 200; i++) {
+        for (int i = 0; i < 130; i++) {
             x.deliver(0);
             x.harm(3, 1, 1);
             x.retry(2);

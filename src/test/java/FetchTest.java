@@ -4,6 +4,7 @@ public final class FetchTest {
         Check check = new Check();
         wrongNumbers(check);
         walkOrder(check);
+        longestWalk(check);
         circles(check);
         wholeFetch(check);
         newlyMissing(check);
@@ -54,6 +55,32 @@ public final class FetchTest {
         check.due("fetch of a leaf", x.fetch(0, 1, leaf), 0);
         check.due("state(0)", x.state(0), 2);
         check.due("waiting()", x.waiting(), 7);
+    }
+
+    /** As many blocks as a store has, all with four links, most of them missing. */
+    private static void longestWalk(Check check) {
+        check.part("a walk through a full store");
+        BlockExchange x = new BlockExchange();
+        // None of the folders has one of the names from 20001 on.
+        int next = 20005;
+        int name = Check.putFolder(x, 0, 20001, 20002, 20003, 20004);
+        for (int i = 1; i < 64; i++) {
+            name = Check.putFolder(x, 0, name, next, next + 1, next + 2);
+            next += 3;
+        }
+        check.due("blocks(0)", x.blocks(0), 64);
+        check.due("fetch", x.fetch(0, 1, name), 193);
+        for (int k = 0; k < 24; k++) {
+            check.due("message " + k, x.message(k, 3), 20001 + k);
+        }
+        check.due("waiting()", x.waiting(), 24);
+        check.due("retry(0)", x.retry(0), 193);
+        check.due("collect(0)", x.collect(0), 0);
+        check.due("deliver(23): the last want", x.deliver(23), 0);
+        check.due("state(0)", x.state(0), 1);
+        check.due("deliver(23): none of it", x.deliver(23), 2);
+        check.due("state(0)", x.state(0), 3);
+        check.due("collect(0)", x.collect(0), 64);
     }
 
     private static void circles(Check check) {

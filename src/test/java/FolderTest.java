@@ -4,6 +4,7 @@ public final class FolderTest {
         Check check = new Check();
         entries(check);
         smallFolders(check);
+        nameZero(check);
         shards(check);
         deepShards(check);
         refusals(check);
@@ -54,6 +55,22 @@ public final class FolderTest {
         }
         check.due("name(): the buffer stays", x.name(), Check.nameOf(1, 2));
         check.due("folder(2) of an empty list", x.folder(2), Check.nameOf(2, 0));
+    }
+
+    private static void nameZero(Check check) {
+        check.part("a folder of the name 0");
+        for (int link = 0; link < 3 * 65521; link++) {
+            int title = 1 + link / 65521;
+            if (Check.nameOf(Check.folder(title, link % 65521)) == 0) {
+                BlockExchange x = new BlockExchange();
+                x.entry(title, link % 65521);
+                check.due("folder(0)", x.folder(0), 0);
+                check.due("find", x.find(0, 0, title), link % 65521);
+                check.due("folder(0): the list is empty", x.folder(0), Check.nameOf(2, 0));
+                return;
+            }
+        }
+        check.due("a folder of the name 0", false, true);
     }
 
     private static void shards(Check check) {

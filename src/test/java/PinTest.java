@@ -139,7 +139,7 @@ public final class PinTest {
         int name = Check.putBlock(x, 0, 0, 1);
         int leaf = name;
         for (int i = 1; i < 64; i++) {
-            name = Check.putBlock(x, 0, Check.folder(1, name, 2, leaf, 3, leaf, 4, name));
+            name = Check.putFolder(x, 0, name, leaf, leaf, name);
         }
         x.pin(0, name, true, true);
         check.due("collect(0)", x.collect(0), 0);

@@ -5,6 +5,7 @@ public final class PutTest {
         goodForms(check);
         badForms(check);
         refusals(check);
+        nameZero(check);
         room(check);
         views(check);
         check.finish();
@@ -80,6 +81,22 @@ public final class PutTest {
         check.due("put(0) of a twin, elsewhere", x.put(0), name);
         check.due("raw(0)", x.raw(0, name, 1), 249);
         check.due("raw(1)", x.raw(1, name, 1), 0);
+    }
+
+    private static void nameZero(Check check) {
+        check.part("a block of the name 0");
+        BlockExchange x = new BlockExchange();
+        int[] row = Check.leafNamed(0);
+        Check.typeAll(x, row);
+        check.due("put(0)", x.put(0), 0);
+        check.due("name() after it", x.name(), 40503);
+        check.due("bytes", x.bytes(0, 0), row.length);
+        check.due("pin", x.pin(0, 0, true, true), true);
+        check.due("fetch", x.fetch(1, 0, 0), 1);
+        check.due("deliver(0)", x.deliver(0), 0);
+        check.due("deliver(0)", x.deliver(0), 1);
+        check.due("state(1)", x.state(1), 2);
+        check.due("length(1)", x.length(1, 0), row.length - 1);
     }
 
     private static void room(Check check) {
