@@ -6,12 +6,17 @@ public final class AddTest {
     public static void main(String[] args) {
         Check check = new Check();
         chunks(check);
+        everySize(check);
         cutsByContent(check);
+        cutsAtTheEnds(check);
         levels(check);
         sameBlocks(check);
         nameZero(check);
         wrongNumbers(check);
         collisions(check);
+        leafAndTreeCollide(check);
+        sameNameSameBytes(check);
+        listStays(check);
         room(check);
         check.finish();
     }
@@ -42,6 +47,57 @@ public final class AddTest {
         check.due("blocks(2)", x.blocks(2), 3);
     }
 
+    /** Each count of bytes with each chunk and fan: the file's blocks are made here a second time. */
+    private static void everySize(Check check) {
+        check.part("every size, chunk and fan");
+        for (int size = 0; size <= 32; size++) {
+            for (int chunk = 1; chunk <= 8; chunk++) {
+                for (int fan = 2; fan <= 4; fan++) {
+                    dueFile(check, size, chunk, fan);
+                }
+            }
+        }
+    }
+
+    private static void dueFile(Check check, int size, int chunk, int fan) {
+        String text = size + " bytes by " + chunk + " and " + fan;
+        BlockExchange x = new BlockExchange();
+        List<int[]> names = new ArrayList<>();
+        int blocks = 0;
+        for (int from = 0; from < size || from == 0; from += chunk) {
+            int[] row = {0};
+            for (int i = from; i < size && i < from + chunk; i++) {
+                x.type(50 + i);
+                row = Check.join(row, 50 + i);
+            }
+            names.add(new int[] {row.length - 1, Check.nameOf(row)});
+            blocks++;
+        }
+        while (names.size() > 1) {
+            List<int[]> trees = new ArrayList<>();
+            for (int from = 0; from < names.size(); from += fan) {
+                int[] parts = {};
+                int sum = 0;
+                for (int[] each : names.subList(from, Math.min(names.size(), from + fan))) {
+                    parts = Check.join(parts, each);
+                    sum += each[0];
+                }
+                trees.add(new int[] {sum, Check.nameOf(Check.tree(parts))});
+                blocks++;
+            }
+            names = trees;
+        }
+        int top = names.get(0)[1];
+        check.due("add of " + text, x.add(1, chunk, fan), top);
+        check.due("blocks of " + text, x.blocks(1), blocks);
+        check.due("length of " + text, x.length(1, top), size);
+        for (int p = 0; p < size; p++) {
+            check.due("read " + p + " of " + text, x.read(1, top, p), 50 + p);
+        }
+        check.due("read behind the end of " + text, x.read(1, top, size), -1);
+        check.due("name() after add of " + text, x.name(), 40503);
+    }
+
     private static void cutsByContent(Check check) {
         check.part("cuts by content");
         // 1 + 3 * 3 is divisible by 5; the byte before a piece does not count for its first byte.
@@ -54,6 +110,40 @@ public final class AddTest {
         dueCuts(check, new int[] {1, 1, 1, 1, 1, 1, 1, 2, 1}, 8, 1);
         dueCuts(check, new int[] {1, 1, 1, 1, 1, 1, 2, 1}, 7, 1);
         dueCuts(check, new int[] {255, 255, 254, 255, 254, 253, 7}, 2, 4, 1);
+    }
+
+    private static void cutsAtTheEnds(Check check) {
+        check.part("cuts at the ends of pieces");
+        // Not behind the first byte of a piece, though 1 + 3 * 3 is divisible by 5 over the cut before it.
+        dueCuts(check, new int[] {1, 1, 1, 1, 1, 1, 1, 3, 1, 1}, 8, 2);
+        dueCuts(check, new int[] {4, 3, 1, 1}, 2, 2);
+        // Behind the second byte at the earliest, and once only behind an 8th byte that is divisible.
+        dueCuts(check, new int[] {1, 2, 1, 2, 1, 2}, 2, 2, 2);
+        dueCuts(check, new int[] {1, 1, 1, 1, 1, 1, 1, 2, 1, 1}, 8, 2);
+        dueCuts(check, new int[] {1, 1, 1, 1, 1, 1, 1, 1, 2}, 8, 1);
+        // No empty piece behind a cut at the end.
+        dueCuts(check, new int[] {1, 1, 2}, 3);
+        dueCuts(check, new int[] {1, 1, 1, 1, 1, 1, 1, 1, 1, 1, 1, 1, 1, 1, 1, 1}, 8, 8);
+        dueCuts(check, new int[] {}, 0);
+        // 0 and 5, 250 and 255 are divisible too; the sum counts, not its parts.
+        dueCuts(check, new int[] {0, 5, 250, 255}, 2, 2);
+        dueCuts(check, new int[] {0, 1, 0, 1}, 4);
+        dueCuts(check, new int[] {255, 254, 253, 252, 251, 250, 249, 248, 247}, 3, 5, 1);
+        BlockExchange x = new BlockExchange();
+        for (int i = 0; i < 32; i++) {
+            x.type(1);
+        }
+        int four = x.add(0, 0, 4);
+        check.due("length of 32 bytes in four pieces", x.length(0, four), 32);
+        check.due("blocks(0): one leaf and one tree", x.blocks(0), 2);
+        check.due("count", x.raw(0, four, 1), 4);
+        for (int i = 0; i < 32; i++) {
+            x.type(0);
+        }
+        int most = x.add(1, 0, 4);
+        check.due("length of 32 bytes in 16 pieces", x.length(1, most), 32);
+        check.due("size of its first part", x.raw(1, most, 2), 8);
+        check.due("blocks(1): one leaf, two trees", x.blocks(1), 3);
     }
 
     private static void dueCuts(Check check, int[] row, int... sizes) {
@@ -168,6 +258,52 @@ public final class AddTest {
         Check.typeAll(x, 1, 2);
         check.due("add whose tree collides", x.add(2, 1, 2), -2);
         check.due("blocks(2)", x.blocks(2), 1);
+    }
+
+    /** A file whose tree has the name of its own first leaf. */
+    private static void leafAndTreeCollide(Check check) {
+        check.part("a tree and a leaf of one file collide");
+        for (int i = 0; i < 256 * 256 * 256; i++) {
+            int[] content = {i & 255, i >> 8 & 255, i >> 16, 9};
+            int first = Check.nameOf(Check.leaf(content[0], content[1], content[2]));
+            if (Check.nameOf(Check.tree(3, first, 1, Check.nameOf(0, 9))) == first) {
+                BlockExchange x = new BlockExchange();
+                Check.typeAll(x, content);
+                check.due("add", x.add(0, 3, 2), -2);
+                check.due("blocks(0)", x.blocks(0), 0);
+                check.due("name(): the buffer stays", x.name(), Check.nameOf(content));
+                check.due("add in one piece", x.add(0, 4, 2), Check.nameOf(Check.leaf(content)));
+                return;
+            }
+        }
+        check.due("a tree with the name of its leaf", false, true);
+    }
+
+    private static void sameNameSameBytes(Check check) {
+        check.part("the same bytes are no collision");
+        BlockExchange x = new BlockExchange();
+        Check.putBlock(x, 0, 0, 0, 0, 7);
+        Check.typeAll(x, 0, 0, 7, 0, 0, 7);
+        int leaf = Check.nameOf(0, 0, 0, 7);
+        check.due("add", x.add(0, 3, 2), Check.nameOf(Check.tree(3, leaf, 3, leaf)));
+        check.due("blocks(0)", x.blocks(0), 2);
+        check.part("a twin in another store is no collision");
+        Check.typeAll(x, 249, 34, 7);
+        check.due("add in store 0", x.add(0, 3, 2), -2);
+        check.due("add in store 1", x.add(1, 3, 2), leaf);
+        check.due("raw(1)", x.raw(1, leaf, 1), 249);
+        check.due("raw(0)", x.raw(0, leaf, 1), 0);
+    }
+
+    private static void listStays(Check check) {
+        check.part("the list stays");
+        BlockExchange x = new BlockExchange();
+        x.entry(3, 4);
+        Check.typeAll(x, 1, 2);
+        check.due("add", x.add(0, 8, 2), Check.nameOf(0, 1, 2));
+        Check.typeAll(x, 0, 1);
+        check.due("put", x.put(0), Check.nameOf(0, 1));
+        check.due("folder", x.folder(0), Check.nameOf(Check.folder(3, 4)));
     }
 
     private static void room(Check check) {

@@ -130,6 +130,32 @@ final class Check {
         return name;
     }
 
+    /** Brings a store to so many blocks with few calls; buffer and list are empty then. */
+    static void fillStore(BlockExchange x, int store, int count) {
+        x.clear();
+        int leaves = 32;
+        while (leaves > 0 && blocksOfFile(leaves) > count - x.blocks(store)) {
+            leaves--;
+        }
+        for (int i = 0; i < leaves; i++) {
+            x.type(100 + i);
+        }
+        if (leaves > 0) {
+            x.add(store, 1, 2);
+        }
+        for (int i = 0; i < 3 && x.blocks(store) < count; i++) {
+            putBlock(x, store, 0, 140 + i);
+        }
+        if (x.blocks(store) != count) {
+            throw new IllegalStateException("the store has " + x.blocks(store) + " blocks");
+        }
+    }
+
+    /** How many blocks a file of so many leaves has, its trees with two links each. */
+    private static int blocksOfFile(int leaves) {
+        return leaves < 2 ? leaves : leaves + blocksOfFile((leaves + 1) / 2);
+    }
+
     /** A tree of two parts whose first link is its own name and whose second one is given. */
     static int[] treeOfItself(int secondSize, int secondLink) {
         for (int size = 1; size < 65536; size++) {

@@ -53,7 +53,7 @@ public final class FaceTest {
     private static long allocated() {
         com.sun.management.ThreadMXBean bean =
                 (com.sun.management.ThreadMXBean) java.lang.management.ManagementFactory.getThreadMXBean();
-        return bean.getThreadAllocatedBytes(Thread.currentThread().getId());
+        return bean.getCurrentThreadAllocatedBytes();
     }
 
     private static void noObjects(Check check) {

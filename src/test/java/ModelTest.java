@@ -7,6 +7,8 @@ public final class ModelTest {
     private static final int RUNS = 4000;
     private static final int CALLS = 512;
     private static final int LOOKS = 100;
+    /** No look makes more calls than this. */
+    private static final int LOOK_MOST = 8;
     private static final int[] EDGES = {-1, 0, 1, 2, 3, 4, 5, 8, 9, 10, 15, 16, 23, 24, 31, 32, 63, 64, 255, 256,
         65520, 65521, Integer.MIN_VALUE, Integer.MAX_VALUE};
     /** Leaves that have a name in common, by twos. */
@@ -60,7 +62,7 @@ public final class ModelTest {
         while (calls < CALLS - LOOKS && !wrong) {
             act(choose());
         }
-        while (calls < CALLS && !wrong) {
+        while (calls < CALLS - LOOK_MOST && !wrong) {
             lookSomewhere();
         }
     }
