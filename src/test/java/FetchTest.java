@@ -14,6 +14,17 @@ public final class FetchTest {
         noRoom(check);
         newFetch(check);
         retries(check);
+        walkOnce(check);
+        doneAtOnce(check);
+        doneByTheLastOne(check);
+        notDoneByRefusedCalls(check);
+        failedStays(check);
+        doneStays(check);
+        eachConditionOfNone(check);
+        eachConditionOfGive(check);
+        giveOfAnOldFetch(check);
+        wantOfAnOldFetch(check);
+        giveIsACopy(check);
         check.finish();
     }
 
@@ -311,5 +322,309 @@ public final class FetchTest {
                 want(0, 2, 10), want(0, 2, 11), want(0, 2, 12)));
         check.due("state(0)", x.state(0), 1);
         check.due("retry(2): the peer", x.retry(2), -1);
+    }
+
+    private static void walkOnce(Check check) {
+        check.part("each name once, where the walk comes to it first");
+        BlockExchange x = new BlockExchange();
+        int low = Check.putBlock(x, 0, Check.folder(1, 50, 2, 51));
+        int left = Check.putBlock(x, 0, Check.tree(1, low, 1, 52));
+        int right = Check.putBlock(x, 0, Check.shard(9, 52, low));
+        int root = Check.putBlock(x, 0, Check.folder(1, 53, 2, left, 3, right, 4, 51));
+        check.due("fetch", x.fetch(0, 1, root), 4);
+        check.due("the wants", Check.lookAtLine(x),
+                String.join(", ", want(0, 1, 53), want(0, 1, 50), want(0, 1, 51), want(0, 1, 52)));
+        check.part("a missing root is the one name");
+        check.due("fetch", x.fetch(1, 0, 4000), 1);
+        check.due("the want", Check.lookAtMessage(x, 4), want(1, 0, 4000));
+        check.part("one name four times");
+        int same = Check.putBlock(x, 2, Check.tree(1, 60, 1, 60, 1, 60, 1, 60));
+        check.due("fetch", x.fetch(2, 0, same), 1);
+        check.due("waiting()", x.waiting(), 6);
+    }
+
+    private static void doneAtOnce(Check check) {
+        check.part("a fetch of what is there is done");
+        BlockExchange x = new BlockExchange();
+        int leaf = Check.putBlock(x, 0, 0, 1);
+        int tree = Check.putBlock(x, 0, Check.tree(1, leaf, 1, leaf));
+        int broken = Check.putBlock(x, 0, Check.tree(9, tree));
+        int[] all = {leaf, tree, broken, Check.putBlock(x, 0, 2, 0)};
+        for (int root : all) {
+            check.due("fetch", x.fetch(0, 1, root), 0);
+            check.due("state(0)", x.state(0), 2);
+            check.due("retry(0)", x.retry(0), -1);
+        }
+        check.due("waiting()", x.waiting(), 0);
+        check.due("fetch of what misses", x.fetch(0, 1, 4000), 1);
+        check.due("state(0)", x.state(0), 1);
+        check.due("fetch of what is there", x.fetch(0, 1, leaf), 0);
+        check.due("state(0)", x.state(0), 2);
+    }
+
+    /** Two names are missing: one call brings the first in, another one the second. */
+    private static void doneByTheLastOne(Check check) {
+        check.part("done when the last one is in");
+        int leaf = Check.nameOf(0, 1, 2);
+        int empty = Check.nameOf(2, 0);
+        for (int turn = 0; turn < 6; turn++) {
+            BlockExchange x = new BlockExchange();
+            int root = Check.putBlock(x, 0, Check.tree(2, leaf, 1, empty));
+            check.due("fetch", x.fetch(0, 1, root), 2);
+            bringIn(x, turn % 3, turn < 3 ? leaf : empty);
+            check.due("state(0) with one of two", x.state(0), 1);
+            check.due("retry(0)", x.retry(0), 1);
+            bringIn(x, turn % 3, turn < 3 ? empty : leaf);
+            check.due("state(0) with both", x.state(0), 2);
+            check.due("retry(0)", x.retry(0), -1);
+        }
+    }
+
+    private static void bringIn(BlockExchange x, int way, int name) {
+        boolean isLeaf = name == Check.nameOf(0, 1, 2);
+        if (way == 2) {
+            Check.putBlock(x, 1, isLeaf ? new int[] {0, 1, 2} : new int[] {2, 0});
+            x.retry(0);
+            int last = x.waiting() - 1;
+            while (last > 0 && x.message(last, 3) != name) {
+                last--;
+            }
+            x.deliver(last);
+            x.deliver(x.waiting() - 1);
+        } else if (isLeaf && way == 1) {
+            Check.typeAll(x, 1, 2);
+            x.add(0, 8, 2);
+        } else if (isLeaf) {
+            Check.putBlock(x, 0, 0, 1, 2);
+        } else if (way == 1) {
+            x.folder(0);
+        } else {
+            Check.putBlock(x, 0, 2, 0);
+        }
+    }
+
+    private static void notDoneByRefusedCalls(Check check) {
+        check.part("not done by a refused call");
+        BlockExchange x = new BlockExchange();
+        Check.fillStore(x, 0, 64);
+        int leaf = Check.nameOf(0, 1);
+        x.fetch(0, 1, leaf);
+        Check.typeAll(x, 0, 1);
+        check.due("put", x.put(0), -3);
+        check.due("state(0)", x.state(0), 1);
+        x.clear();
+        Check.typeAll(x, 1);
+        check.due("add", x.add(0, 8, 2), -3);
+        check.due("state(0)", x.state(0), 1);
+        x.fetch(0, 1, Check.nameOf(2, 0));
+        check.due("folder", x.folder(0), -3);
+        check.due("state(0)", x.state(0), 1);
+    }
+
+    private static void failedStays(Check check) {
+        check.part("failed stays so until the next fetch");
+        BlockExchange x = new BlockExchange();
+        int leaf = Check.nameOf(0, 1);
+        int root = Check.putBlock(x, 0, Check.tree(1, leaf));
+        x.fetch(0, 1, root);
+        x.retry(0);
+        x.deliver(0);
+        Check.putBlock(x, 1, 0, 1);
+        x.deliver(0);
+        check.due("the line", Check.lookAtLine(x), "2 1>0 " + leaf + ", 1 1>0 " + leaf);
+        x.deliver(0);
+        check.due("state(0)", x.state(0), 3);
+        check.due("deliver(0) of a give", x.deliver(0), 1);
+        check.due("blocks(0): nothing came in", x.blocks(0), 1);
+        check.due("state(0)", x.state(0), 3);
+        Check.putBlock(x, 0, 0, 1);
+        check.due("state(0), nothing is missing", x.state(0), 3);
+        check.due("retry(0)", x.retry(0), -1);
+        check.due("fetch, refused", x.fetch(0, 0, root), -1);
+        check.due("state(0)", x.state(0), 3);
+        check.due("fetch", x.fetch(0, 1, root), 0);
+        check.due("state(0)", x.state(0), 2);
+    }
+
+    private static void doneStays(Check check) {
+        check.part("done stays so until the next fetch");
+        BlockExchange x = new BlockExchange();
+        int leaf = Check.putBlock(x, 0, 0, 1);
+        int root = Check.putBlock(x, 0, Check.tree(1, leaf));
+        x.fetch(0, 1, root);
+        check.due("collect(0)", x.collect(0), 2);
+        check.due("state(0), all is missing", x.state(0), 2);
+        check.due("retry(0)", x.retry(0), -1);
+        Check.putBlock(x, 0, Check.tree(1, leaf));
+        check.due("state(0) after put of the root", x.state(0), 2);
+        check.due("retry(0)", x.retry(0), -1);
+        check.due("fetch", x.fetch(0, 1, root), 1);
+        check.due("state(0)", x.state(0), 1);
+        check.due("state(1)", x.state(1), 0);
+        check.due("state(2)", x.state(2), 0);
+    }
+
+    /** A NONE of 4000 from store 1 to store 0 waits; store 0's fetch runs and misses 4000. */
+    private static BlockExchange waitingNone() {
+        BlockExchange x = new BlockExchange();
+        x.fetch(0, 1, 4000);
+        x.deliver(0);
+        return x;
+    }
+
+    private static void eachConditionOfNone(Check check) {
+        check.part("a none: running, its peer, missing");
+        BlockExchange x = waitingNone();
+        check.due("deliver(0)", x.deliver(0), 2);
+        check.due("state(0): failed", x.state(0), 3);
+
+        x = waitingNone();
+        Check.putBlock(x, 0, Check.leafNamed(4000));
+        check.due("state(0)", x.state(0), 2);
+        check.due("deliver(0) when it is done", x.deliver(0), 2);
+        check.due("state(0)", x.state(0), 2);
+
+        x = waitingNone();
+        x.fetch(0, 2, 4000);
+        check.due("deliver(0) when another one is the peer", x.deliver(0), 2);
+        check.due("state(0)", x.state(0), 1);
+
+        x = waitingNone();
+        x.fetch(0, 1, 4001);
+        check.due("deliver(0) when the name is not missing", x.deliver(0), 2);
+        check.due("state(0)", x.state(0), 1);
+
+        x = waitingNone();
+        int root = Check.putBlock(x, 0, Check.tree(1, 4000, 1, 4001));
+        x.fetch(0, 1, root);
+        Check.putBlock(x, 0, Check.leafNamed(4000));
+        check.due("deliver(0) when the block is there", x.deliver(0), 2);
+        check.due("state(0)", x.state(0), 1);
+
+        x = waitingNone();
+        x.fetch(0, 1, Check.putBlock(x, 0, Check.tree(1, 4001, 1, 4000)));
+        check.due("deliver(0) when it is missing for a new fetch", x.deliver(0), 2);
+        check.due("state(0)", x.state(0), 3);
+
+        x = waitingNone();
+        x.fetch(1, 0, 4000);
+        x.fetch(2, 1, 4000);
+        check.due("deliver(0): it is for its receiver alone", x.deliver(0), 2);
+        check.due("states", x.state(0) * 100 + x.state(1) * 10 + x.state(2), 311);
+    }
+
+    /** A GIVE of the leaf 0 1 from store 1 to store 0 waits; store 0's fetch runs and misses it. */
+    private static BlockExchange waitingGive() {
+        BlockExchange x = new BlockExchange();
+        x.fetch(0, 1, Check.putBlock(x, 1, 0, 1));
+        x.deliver(0);
+        return x;
+    }
+
+    private static void eachConditionOfGive(Check check) {
+        check.part("a give: running, its peer, a block, missing");
+        int leaf = Check.nameOf(0, 1);
+        BlockExchange x = waitingGive();
+        check.due("deliver(0)", x.deliver(0), 1);
+        dueAfterGive(check, x, 1, 2);
+
+        x = waitingGive();
+        x.fetch(0, 1, Check.putBlock(x, 0, 0, 5));
+        check.due("deliver(0) when it is done", x.deliver(0), 1);
+        dueAfterGive(check, x, 1, 2);
+        check.due("bytes", x.bytes(0, leaf), -1);
+
+        x = waitingGive();
+        x.fetch(0, 2, leaf);
+        check.due("deliver(0) when another one is the peer", x.deliver(0), 1);
+        dueAfterGive(check, x, 0, 1);
+
+        x = waitingGive();
+        x.harm(0, 0, 8);
+        x.fetch(0, 1, Check.nameOf(8, 1));
+        check.due("deliver(0) when it is no block", x.deliver(0), 1);
+        dueAfterGive(check, x, 0, 1);
+
+        x = waitingGive();
+        x.fetch(0, 1, 4001);
+        check.due("deliver(0) when the name is not missing", x.deliver(0), 1);
+        dueAfterGive(check, x, 0, 1);
+
+        x = waitingGive();
+        x.harm(0, 1, 8);
+        check.due("deliver(0) when the bytes have another name", x.deliver(0), 1);
+        dueAfterGive(check, x, 0, 1);
+
+        x = waitingGive();
+        Check.putBlock(x, 0, 0, 1);
+        x.fetch(0, 1, Check.putBlock(x, 0, Check.tree(1, leaf, 1, 4001)));
+        check.due("deliver(0) when the block is there", x.deliver(0), 1);
+        dueAfterGive(check, x, 2, 1);
+
+        x = waitingGive();
+        x.fetch(2, 1, leaf);
+        check.due("deliver(0): it is for its receiver alone", x.deliver(0), 1);
+        check.due("blocks(2)", x.blocks(2), 0);
+        check.due("state(2)", x.state(2), 1);
+    }
+
+    private static void dueAfterGive(Check check, BlockExchange x, int blocks, int state) {
+        check.due("blocks(0)", x.blocks(0), blocks);
+        check.due("state(0)", x.state(0), state);
+        check.due("blocks(1)", x.blocks(1), 1);
+    }
+
+    private static void giveOfAnOldFetch(Check check) {
+        check.part("a give of an old fetch serves the new one");
+        BlockExchange x = waitingGive();
+        int leaf = Check.nameOf(0, 1);
+        x.fetch(0, 1, Check.putBlock(x, 0, Check.folder(1, 4001, 2, leaf)));
+        check.due("deliver(0)", x.deliver(0), 1);
+        dueAfterGive(check, x, 2, 1);
+        check.due("retry(0)", x.retry(0), 1);
+    }
+
+    private static void wantOfAnOldFetch(Check check) {
+        check.part("a want is answered whatever has become of its fetch");
+        BlockExchange x = new BlockExchange();
+        int leaf = Check.putBlock(x, 1, 0, 1);
+        x.fetch(0, 1, leaf);
+        x.fetch(0, 1, 4001);
+        x.fetch(0, 2, Check.putBlock(x, 0, 2, 0));
+        check.due("state(0)", x.state(0), 2);
+        check.due("deliver(0)", x.deliver(0), 0);
+        check.due("deliver(0)", x.deliver(0), 0);
+        check.due("the answers", Check.lookAtLine(x), "1 1>0 " + leaf + ", 2 1>0 4001");
+        check.part("the peer's answer is of the time when the want comes");
+        x.fetch(2, 1, Check.nameOf(0, 9));
+        Check.putBlock(x, 1, 0, 9);
+        x.deliver(2);
+        check.due("a give", Check.lookAtMessage(x, 2), "1 1>2 " + Check.nameOf(0, 9));
+        x.retry(2);
+        x.collect(1);
+        x.deliver(3);
+        check.due("a none", Check.lookAtMessage(x, 3), "2 1>2 " + Check.nameOf(0, 9));
+    }
+
+    private static void giveIsACopy(Check check) {
+        check.part("a give is a copy");
+        BlockExchange x = new BlockExchange();
+        int leaf = Check.putBlock(x, 1, 0, 1, 2);
+        x.fetch(0, 1, leaf);
+        x.retry(0);
+        x.deliver(0);
+        x.deliver(0);
+        check.due("harm of the first", x.harm(0, 2, 255), true);
+        check.due("message(0)", x.message(0, 3), Check.nameOf(0, 1, 253));
+        check.due("message(1)", x.message(1, 3), leaf);
+        check.due("raw(1)", x.raw(1, leaf, 2), 2);
+        x.collect(1);
+        check.due("message(1) when the block is gone", x.message(1, 3), leaf);
+        check.due("deliver(1)", x.deliver(1), 1);
+        check.due("raw(0)", x.raw(0, leaf, 2), 2);
+        x.fetch(0, 1, Check.nameOf(0, 1, 253));
+        check.due("deliver(0)", x.deliver(0), 1);
+        check.due("raw(0) of the harmed one", x.raw(0, Check.nameOf(0, 1, 253), 2), 253);
+        check.due("raw(0) of the whole one", x.raw(0, leaf, 2), 2);
     }
 }

@@ -3,8 +3,12 @@ public final class FileTest {
     public static void main(String[] args) {
         Check check = new Check();
         lengths(check);
+        everyLength(check);
         reading(check);
+        firstSizeAboveP(check);
+        greatestSizes(check);
         brokenFiles(check);
+        wrongLengths(check);
         depth(check);
         circle(check);
         check.finish();
@@ -25,6 +29,66 @@ public final class FileTest {
         check.due("elsewhere", x.length(1, leaf), -1);
         check.due("length(-1)", x.length(-1, leaf), -1);
         check.due("length(3)", x.length(3, leaf), -1);
+    }
+
+    private static void everyLength(Check check) {
+        check.part("leaves of 0 to 8 bytes");
+        for (int size = 0; size <= 8; size++) {
+            BlockExchange x = new BlockExchange();
+            int[] row = {0};
+            for (int i = 0; i < size; i++) {
+                row = Check.join(row, 200 + i);
+            }
+            int leaf = Check.putBlock(x, 2, row);
+            check.due("length of " + size, x.length(2, leaf), size);
+            for (int p = -1; p <= 9; p++) {
+                check.due("read " + p + " of " + size, x.read(2, leaf, p), p < 0 || p >= size ? -1 : 200 + p);
+            }
+        }
+    }
+
+    private static void firstSizeAboveP(Check check) {
+        check.part("the first size that, added to those before it, is above p");
+        for (int count = 1; count <= 4; count++) {
+            BlockExchange x = new BlockExchange();
+            int[] parts = {};
+            int[] content = {};
+            for (int i = 0; i < count; i++) {
+                int[] leaf = {0};
+                for (int b = 0; b <= i; b++) {
+                    leaf = Check.join(leaf, 10 * i + b);
+                    content = Check.join(content, 10 * i + b);
+                }
+                parts = Check.join(parts, i + 1, Check.putBlock(x, 0, leaf));
+            }
+            int tree = Check.putBlock(x, 0, Check.tree(parts));
+            check.due("length", x.length(0, tree), content.length);
+            for (int p = 0; p < content.length; p++) {
+                check.due("read " + p, x.read(0, tree, p), content[p]);
+            }
+            check.due("read behind the end", x.read(0, tree, content.length), -1);
+        }
+    }
+
+    /** Four parts of 65535 bytes, of each of which the first and the last byte are there. */
+    private static void greatestSizes(Check check) {
+        check.part("the greatest sizes");
+        BlockExchange x = new BlockExchange();
+        int[] parts = {};
+        for (int i = 0; i < 4; i++) {
+            int first = Check.putBlock(x, 0, 0, 10 + i);
+            int last = Check.putBlock(x, 0, 0, 20 + i);
+            parts = Check.join(parts, 65535, Check.putBlock(x, 0, Check.tree(1, first, 65533, 7, 1, last)));
+        }
+        int top = Check.putBlock(x, 0, Check.tree(parts));
+        check.due("length", x.length(0, top), 262140);
+        for (int i = 0; i < 4; i++) {
+            check.due("read of a first byte", x.read(0, top, 65535 * i), 10 + i);
+            check.due("read of a second byte", x.read(0, top, 65535 * i + 1), -2);
+            check.due("read of a last byte but one", x.read(0, top, 65535 * i + 65533), -2);
+            check.due("read of a last byte", x.read(0, top, 65535 * i + 65534), 20 + i);
+        }
+        check.due("read behind the end", x.read(0, top, 262140), -1);
     }
 
     private static void reading(Check check) {
@@ -75,6 +139,39 @@ public final class FileTest {
         check.due("read whole further down", x.read(0, above, 12), 1);
         int wrongTree = Check.putBlock(x, 0, Check.tree(7, short1));
         check.due("read where a tree's length is not the size", x.read(0, wrongTree, 0), -2);
+    }
+
+    /** Links to a leaf and to a tree of three bytes, with each size round three. */
+    private static void wrongLengths(Check check) {
+        check.part("the length is the size");
+        for (int size = 1; size <= 5; size++) {
+            BlockExchange x = new BlockExchange();
+            int leaf = Check.putBlock(x, 0, 0, 1, 2, 3);
+            int tree = Check.putBlock(x, 0, Check.tree(3, leaf));
+            int[] tops = {Check.putBlock(x, 0, Check.tree(size, leaf)), Check.putBlock(x, 0, Check.tree(size, tree))};
+            for (int top : tops) {
+                check.due("length", x.length(0, top), size);
+                for (int p = 0; p <= size; p++) {
+                    int due = p == size ? -1 : size == 3 ? 1 + p : -2;
+                    check.due("read " + p + " of size " + size, x.read(0, top, p), due);
+                }
+            }
+        }
+        BlockExchange x = new BlockExchange();
+        int empty = Check.putBlock(x, 0, 0);
+        check.due("read over an empty leaf", x.read(0, Check.putBlock(x, 0, Check.tree(1, empty)), 0), -2);
+        check.due("read over a folder", x.read(0, Check.putBlock(x, 0, Check.tree(1, Check.putBlock(x, 0, 2, 0))), 0), -2);
+        check.part("what comes in mends, what is collected breaks");
+        int tree = Check.putBlock(x, 0, Check.tree(1, Check.nameOf(0, 9)));
+        check.due("read", x.read(0, tree, 0), -2);
+        Check.putBlock(x, 1, 0, 9);
+        check.due("read when it is there in another store", x.read(0, tree, 0), -2);
+        Check.putBlock(x, 0, 0, 9);
+        check.due("read when it is there", x.read(0, tree, 0), 9);
+        x.pin(0, tree, false, true);
+        x.collect(0);
+        check.due("read when it is gone", x.read(0, tree, 0), -2);
+        check.due("length stays", x.length(0, tree), 1);
     }
 
     private static void depth(Check check) {

@@ -5,10 +5,16 @@ public final class FolderTest {
         entries(check);
         smallFolders(check);
         nameZero(check);
+        everyCount(check);
         shards(check);
+        waysWithoutTitles(check);
+        fourAndFiveOfOneWay(check);
         deepShards(check);
+        sameFolders(check);
         refusals(check);
         finding(check);
+        everyMask(check);
+        bitsOfEachShard(check);
         brokenFolders(check);
         check.finish();
     }
@@ -71,6 +77,90 @@ public final class FolderTest {
             }
         }
         check.due("a folder of the name 0", false, true);
+    }
+
+    private static void everyCount(Check check) {
+        check.part("at most 4 titles are one folder, more are a shard");
+        for (int count = 0; count <= 16; count++) {
+            BlockExchange x = new BlockExchange();
+            for (int i = count; i >= 1; i--) {
+                x.entry(15 * i, 1000 + i);
+            }
+            int top = x.folder(0);
+            check.due("form of " + count + " titles", x.raw(0, top, 0), count <= 4 ? 2 : 3);
+            check.due("one block of " + count + " titles", x.blocks(0) == 1, count <= 4);
+            if (count <= 4) {
+                check.due("count of " + count + " titles", x.raw(0, top, 1), count);
+            }
+            for (int title = 1; title <= 255; title++) {
+                boolean there = title % 15 == 0 && title <= 15 * count;
+                check.due("find " + title + " of " + count, x.find(0, top, title), there ? 1000 + title / 15 : -1);
+            }
+        }
+    }
+
+    /** Titles whose numbers go the ways of the mask and no others: a shard of just these links. */
+    private static void waysWithoutTitles(Check check) {
+        check.part("a way without titles has no link");
+        for (int mask = 1; mask <= 15; mask++) {
+            BlockExchange x = new BlockExchange();
+            int count = 0;
+            for (int title = 1; count < 16; title++) {
+                // 37 * title and title have the same lowest two bits.
+                if ((mask >> title % 4 & 1) == 1) {
+                    x.entry(title, title);
+                    count++;
+                }
+            }
+            int top = x.folder(0);
+            check.due("kind", x.raw(0, top, 0), 3);
+            check.due("mask", x.raw(0, top, 1), mask);
+            check.due("bytes", x.bytes(0, top), 2 + 2 * Integer.bitCount(mask));
+            for (int title = 1; title <= 8; title++) {
+                check.due("find " + title, x.find(0, top, title), (mask >> title % 4 & 1) == 1 ? title : -1);
+            }
+        }
+    }
+
+    private static void fourAndFiveOfOneWay(Check check) {
+        check.part("at most 4 titles of one way are a folder, more are a shard");
+        for (int count = 4; count <= 5; count++) {
+            BlockExchange x = new BlockExchange();
+            x.entry(1, 100);
+            for (int n = 1; n <= count; n++) {
+                x.entry(4 * n, n);
+            }
+            int top = x.folder(0);
+            int below = x.raw(0, top, 2) + 256 * x.raw(0, top, 3);
+            check.due("mask", x.raw(0, top, 1), 3);
+            check.due("kind of way 0", x.raw(0, below, 0), count == 4 ? 2 : 3);
+            check.due("blocks(0)", x.blocks(0), count == 4 ? 3 : 7);
+            for (int n = 1; n <= 5; n++) {
+                check.due("find " + 4 * n, x.find(0, top, 4 * n), n <= count ? n : -1);
+                // Who begins at the lower shard begins with the lowest two bits, by which it has only 16.
+                boolean below4 = count == 4 ? n <= 4 : n == 4;
+                check.due("find below " + 4 * n, x.find(0, below, 4 * n), below4 ? n : -1);
+            }
+        }
+    }
+
+    /** Blocks of a folder that are there already, or twice among them, come in once. */
+    private static void sameFolders(Check check) {
+        check.part("a folder that is there already");
+        BlockExchange x = new BlockExchange();
+        for (int round = 0; round < 2; round++) {
+            for (int title = 1; title <= 5; title++) {
+                check.due("entry", x.entry(title, 1000 + title), true);
+            }
+            check.due("find in the folder", x.find(0, x.folder(0), 5), 1005);
+            check.due("blocks(0)", x.blocks(0), 5);
+        }
+        Check.putBlock(x, 1, Check.folder(4, 1004));
+        for (int title = 1; title <= 5; title++) {
+            x.entry(title, 1000 + title);
+        }
+        check.due("find in the folder", x.find(1, x.folder(1), 4), 1004);
+        check.due("blocks(1)", x.blocks(1), 5);
     }
 
     private static void shards(Check check) {
@@ -198,6 +288,46 @@ public final class FolderTest {
         int[] titles = {0, -1, 256, Integer.MIN_VALUE, Integer.MAX_VALUE};
         for (int title : titles) {
             check.due("find " + title + " in a shard", x.find(0, top, title), -1);
+        }
+    }
+
+    private static void everyMask(Check check) {
+        check.part("the link of each bit of each mask");
+        BlockExchange x = new BlockExchange();
+        int[] folders = new int[4];
+        for (int way = 0; way < 4; way++) {
+            folders[way] = Check.putBlock(x, 0, Check.folder(4, 10 + way, 5, 20 + way, 6, 30 + way, 7, 40 + way));
+        }
+        for (int mask = 1; mask <= 15; mask++) {
+            int[] links = {};
+            for (int way = 0; way < 4; way++) {
+                links = (mask >> way & 1) == 1 ? Check.join(links, folders[way]) : links;
+            }
+            int shard = Check.putBlock(x, 0, Check.shard(mask, links));
+            for (int way = 0; way < 4; way++) {
+                // Titles 4 to 7 go the ways 0 to 3.
+                int due = (mask >> way & 1) == 1 ? 10 * (way + 1) + way : -1;
+                check.due("find " + (4 + way) + ", mask " + mask, x.find(0, shard, 4 + way), due);
+            }
+        }
+    }
+
+    /** A shard of one bit, s links down: titles with these two bits find, the others find nothing. */
+    private static void bitsOfEachShard(Check check) {
+        check.part("bits 2s and 2s + 1 of (37 * title) modulo 256");
+        for (int s = 0; s < 4; s++) {
+            for (int way = 0; way < 4; way++) {
+                for (int title = 1; title <= 255; title += 2 + s) {
+                    BlockExchange x = new BlockExchange();
+                    int top = Check.putBlock(x, 0, Check.shard(1 << way, Check.putBlock(x, 0, Check.folder(title, 9))));
+                    for (int i = 0; i < s; i++) {
+                        top = Check.putBlock(x, 0, Check.shard(15, top, top, top, top));
+                    }
+                    int number = 37 * title % 256;
+                    int bits = new int[] {number % 4, number / 4 % 4, number / 16 % 4, number / 64}[s];
+                    check.due("find " + title + ", s " + s + ", way " + way, x.find(0, top, title), bits == way ? 9 : -1);
+                }
+            }
         }
     }
 

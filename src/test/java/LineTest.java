@@ -6,7 +6,10 @@ public final class LineTest {
         order(check);
         views(check);
         harms(check);
+        harmOfEveryByte(check);
+        harmThatTheNameHides(check);
         room(check);
+        takenFromAFullLine(check);
         check.finish();
     }
 
@@ -137,5 +140,72 @@ public final class LineTest {
         check.due("waiting()", x.waiting(), 24);
         check.due("message(23)", Check.lookAtMessage(x, 23), "0 0>1 10");
         check.due("retry(0)", x.retry(0), 3);
+    }
+
+    /** The longest block and the shortest one, each byte there is and the next ones outside. */
+    private static void harmOfEveryByte(Check check) {
+        check.part("harm of each byte of a give");
+        int[][] rows = {{0}, {2, 0}, Check.tree(1, 5, 2, 6, 3, 7, 4, 8), {0, 1, 2, 3, 4, 5, 6, 7, 8}};
+        for (int[] row : rows) {
+            BlockExchange x = new BlockExchange();
+            x.fetch(0, 2, Check.putBlock(x, 2, row));
+            x.deliver(0);
+            int[] harmed = row.clone();
+            for (int i = -1; i <= row.length; i++) {
+                boolean there = i >= 0 && i < row.length;
+                check.due("harm of byte " + i + " of " + row.length, x.harm(0, i, 129), there);
+                if (there) {
+                    harmed[i] ^= 129;
+                }
+                check.due("name of the bytes", x.message(0, 3), Check.nameOf(harmed));
+            }
+            for (int i = 0; i < row.length; i++) {
+                x.harm(0, i, 129);
+            }
+            check.due("name when all is mended", x.message(0, 3), Check.nameOf(row));
+            check.due("deliver(0)", x.deliver(0), 1);
+            check.due("bytes(0)", x.bytes(0, Check.nameOf(row)), row.length);
+        }
+    }
+
+    private static void harmThatTheNameHides(Check check) {
+        check.part("damaged bytes of the same name");
+        BlockExchange x = new BlockExchange();
+        int name = Check.putBlock(x, 1, 0, 0, 0, 7);
+        x.fetch(0, 1, name);
+        x.deliver(0);
+        x.harm(0, 1, 249);
+        check.due("message", x.message(0, 3), Check.nameOf(0, 249, 0, 7));
+        x.harm(0, 2, 34);
+        check.due("message", x.message(0, 3), name);
+        check.due("deliver(0)", x.deliver(0), 1);
+        check.due("state(0)", x.state(0), 2);
+        check.due("raw(0, 1)", x.raw(0, name, 1), 249);
+        check.due("raw(0, 2)", x.raw(0, name, 2), 34);
+        check.due("raw(1, 1)", x.raw(1, name, 1), 0);
+    }
+
+    private static void takenFromAFullLine(Check check) {
+        check.part("taken from each place of a full line");
+        for (int k = 0; k < 24; k++) {
+            for (int turn = 0; turn < 2; turn++) {
+                BlockExchange x = new BlockExchange();
+                for (int i = 0; i < 24; i++) {
+                    x.fetch(i % 2, 2, 3000 + i);
+                }
+                if (turn == 0) {
+                    check.due("deliver(" + k + ")", x.deliver(k), 0);
+                } else {
+                    check.due("harm(" + k + ", 0, 0)", x.harm(k, 0, 0), true);
+                }
+                check.due("waiting()", x.waiting(), 24 - turn);
+                for (int at = 0; at < 23; at++) {
+                    int i = at < k ? at : at + 1;
+                    check.due("message " + at, Check.lookAtMessage(x, at), "0 " + i % 2 + ">2 " + (3000 + i));
+                }
+                check.due("message 23", Check.lookAtMessage(x, 23),
+                        turn == 1 ? "-1 -1>-1 -1" : "2 2>" + k % 2 + " " + (3000 + k));
+            }
+        }
     }
 }

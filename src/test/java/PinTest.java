@@ -9,7 +9,13 @@ public final class PinTest {
         allForms(check);
         circles(check);
         longChain(check);
+        gaps(check);
+        whatComesLater(check);
+        twoDeepPins(check);
+        otherStores(check);
+        emptyAndFull(check);
         fetchKeeps(check);
+        fetchKeepsUnderItsRoot(check);
         check.finish();
     }
 
@@ -166,5 +172,111 @@ public final class PinTest {
         check.due("fetch of what is there", x.fetch(0, 1, leaf), 0);
         check.due("collect(0) after it is done", x.collect(0), 1);
         check.due("state(0) stays done", x.state(0), 2);
+    }
+
+    /** What hangs below a block that is not there is not under the pinned one. */
+    private static void gaps(Check check) {
+        check.part("a gap below a deep pin");
+        for (int turn = 0; turn < 2; turn++) {
+            BlockExchange x = new BlockExchange();
+            int leaf = Check.putBlock(x, 0, 0, 1);
+            int[] middle = Check.tree(1, leaf);
+            int top = Check.putBlock(x, 0, Check.folder(1, Check.nameOf(middle)));
+            x.pin(0, top, true, true);
+            if (turn == 1) {
+                Check.putBlock(x, 0, middle);
+            }
+            check.due("collect(0)", x.collect(0), turn == 0 ? 1 : 0);
+            check.due("bytes of the leaf", x.bytes(0, leaf), turn == 0 ? -1 : 2);
+        }
+    }
+
+    private static void whatComesLater(Check check) {
+        check.part("what comes in later under a deep pin");
+        for (int turn = 0; turn < 2; turn++) {
+            BlockExchange x = new BlockExchange();
+            int leaf = Check.nameOf(0, 1);
+            int top = Check.putBlock(x, 0, Check.tree(1, leaf));
+            x.pin(0, top, turn == 0, true);
+            check.due("collect(0)", x.collect(0), 0);
+            Check.putBlock(x, 0, 0, 1);
+            Check.putBlock(x, 0, 0, 2);
+            check.due("collect(0) of a later leaf", x.collect(0), turn == 0 ? 1 : 2);
+            check.due("read", x.read(0, top, 0), turn == 0 ? 1 : -2);
+        }
+    }
+
+    private static void twoDeepPins(Check check) {
+        check.part("two pins over one leaf");
+        BlockExchange x = new BlockExchange();
+        int leaf = Check.putBlock(x, 0, 0, 1);
+        int tree = Check.putBlock(x, 0, Check.tree(1, leaf));
+        int folder = Check.putBlock(x, 0, Check.folder(1, leaf));
+        x.pin(0, tree, true, true);
+        x.pin(0, folder, true, true);
+        x.pin(0, tree, false, true);
+        check.due("collect(0)", x.collect(0), 0);
+        check.due("take the tree's deep pin away", x.pin(0, tree, true, false), true);
+        check.due("collect(0): the folder keeps the leaf", x.collect(0), 0);
+        check.due("take the folder's pin away", x.pin(0, folder, true, false), true);
+        check.due("collect(0): the tree is pinned alone", x.collect(0), 2);
+        check.due("bytes of the tree", x.bytes(0, tree), 6);
+        check.due("take the last pin away", x.pin(0, tree, false, false), true);
+        check.due("collect(0)", x.collect(0), 1);
+        check.due("collect(0) of nothing", x.collect(0), 0);
+    }
+
+    private static void otherStores(Check check) {
+        check.part("collect touches one store");
+        BlockExchange x = new BlockExchange();
+        for (int store = 0; store < 3; store++) {
+            Check.putBlock(x, store, 0, 1);
+            Check.putBlock(x, store, 0, 2);
+        }
+        x.pin(1, Check.nameOf(0, 1), true, true);
+        check.due("collect(0): a pin of store 1 does not keep", x.collect(0), 2);
+        check.due("blocks(1)", x.blocks(1), 2);
+        check.due("collect(1)", x.collect(1), 1);
+        check.due("bytes(1)", x.bytes(1, Check.nameOf(0, 1)), 2);
+        check.due("blocks(2)", x.blocks(2), 2);
+    }
+
+    private static void emptyAndFull(Check check) {
+        check.part("collect of an empty and of a full store");
+        BlockExchange x = new BlockExchange();
+        check.due("collect(2) of nothing", x.collect(2), 0);
+        Check.fillStore(x, 2, 64);
+        check.due("pin", x.pin(2, Check.nameOf(0, 115), false, true), true);
+        check.due("collect(2)", x.collect(2), 63);
+        check.due("blocks(2)", x.blocks(2), 1);
+        check.due("raw", x.raw(2, Check.nameOf(0, 115), 1), 115);
+        check.due("pin away", x.pin(2, Check.nameOf(0, 115), false, false), true);
+        Check.fillStore(x, 2, 64);
+        check.due("collect(2) of 64", x.collect(2), 64);
+        check.due("blocks(2)", x.blocks(2), 0);
+    }
+
+    private static void fetchKeepsUnderItsRoot(Check check) {
+        check.part("a running fetch keeps what is under its root");
+        BlockExchange x = new BlockExchange();
+        int leaf = Check.putBlock(x, 0, 0, 1);
+        int[] middle = Check.tree(1, leaf);
+        int other = Check.putBlock(x, 0, 0, 2);
+        int top = Check.putBlock(x, 0, Check.folder(1, Check.nameOf(middle), 2, other));
+        x.fetch(0, 1, 4000);
+        check.due("collect(0): its root is not there", x.collect(0), 3);
+        Check.putBlock(x, 0, 0, 1);
+        Check.putBlock(x, 0, 0, 2);
+        Check.putBlock(x, 0, Check.folder(1, Check.nameOf(middle), 2, other));
+        x.fetch(0, 1, top);
+        check.due("collect(0): the leaf is below a gap", x.collect(0), 1);
+        Check.putBlock(x, 0, 0, 3);
+        x.pin(0, Check.nameOf(0, 3), false, true);
+        check.due("collect(0): pins keep as well", x.collect(0), 0);
+        check.due("blocks(0)", x.blocks(0), 3);
+        x.fetch(0, 1, other);
+        check.due("state(0)", x.state(0), 2);
+        check.due("collect(0): a done fetch keeps nothing", x.collect(0), 2);
+        check.due("blocks(0)", x.blocks(0), 1);
     }
 }
