@@ -5,6 +5,8 @@ public final class PutTest {
         goodForms(check);
         badForms(check);
         refusals(check);
+        longerTwins(check);
+        whatIsThere(check);
         nameZero(check);
         room(check);
         views(check);
@@ -81,6 +83,44 @@ public final class PutTest {
         check.due("put(0) of a twin, elsewhere", x.put(0), name);
         check.due("raw(0)", x.raw(0, name, 1), 249);
         check.due("raw(1)", x.raw(1, name, 1), 0);
+    }
+
+    /** Rows of one name of which one is the beginning of the other: a collision in both orders. */
+    private static void longerTwins(Check check) {
+        check.part("a row and a longer one of the same name");
+        int[] shorter = {0};
+        int[] longer = Check.leafNamed(Check.nameOf(shorter));
+        int name = Check.nameOf(shorter);
+        for (int turn = 0; turn < 2; turn++) {
+            BlockExchange x = new BlockExchange();
+            int[] first = turn == 0 ? shorter : longer;
+            int[] second = turn == 0 ? longer : shorter;
+            Check.putBlock(x, 0, first);
+            Check.typeAll(x, second);
+            check.due("put of the second", x.put(0), -2);
+            check.due("bytes of the first", x.bytes(0, name), first.length);
+            check.due("name(): the buffer stays", x.name(), name);
+            check.due("put of the second elsewhere", x.put(1), name);
+            check.due("bytes of the second", x.bytes(1, name), second.length);
+            Check.typeAll(x, first);
+            check.due("put of the first again", x.put(0), name);
+            check.due("blocks(0)", x.blocks(0), 1);
+        }
+    }
+
+    private static void whatIsThere(Check check) {
+        check.part("put of a block that is there already changes nothing in the store");
+        BlockExchange x = new BlockExchange();
+        int leaf = Check.putBlock(x, 0, 0, 1);
+        int tree = Check.putBlock(x, 0, Check.tree(1, leaf, 1, 4000));
+        x.pin(0, tree, true, true);
+        x.fetch(0, 1, tree);
+        String seen = Check.look(x, leaf, tree);
+        Check.typeAll(x, 0, 1);
+        check.due("put", x.put(0), leaf);
+        check.due("what is seen", Check.look(x, leaf, tree), seen);
+        check.due("retry(0)", x.retry(0), 1);
+        check.due("collect(0)", x.collect(0), 0);
     }
 
     private static void nameZero(Check check) {
