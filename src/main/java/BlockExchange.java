@@ -723,7 +723,7 @@ public final class BlockExchange {
         /** The trees take the places of what they link, which lie before what is still to do. */
         private void makeTrees(int fan, Batch batch) {
             int trees = 0;
-            for (int first = 0; first < count; first += fan) {
+            for (int first = 0; first < count && trees < BUFFER_ROOM; first += fan) {
                 int end = Math.min(count, first + fan);
                 int sum = 0;
                 batch.write(Form.TREE);

@@ -16,6 +16,7 @@ public final class FolderTest {
         everyMask(check);
         bitsOfEachShard(check);
         brokenFolders(check);
+        titlesOutside(check);
         check.finish();
     }
 
@@ -350,5 +351,27 @@ public final class FolderTest {
         check.due("find nothing 4 links down", x.find(0, below, 8), -1);
         below = Check.putBlock(x, 0, Check.shard(15, below, below, below, below));
         check.due("find over a shard 4 links down", x.find(0, below, 7), -2);
+    }
+
+    /** No title is refused: those outside 1 .. 255 go down like the others, and find nothing. */
+    private static void titlesOutside(Check check) {
+        check.part("find, titles outside 1 .. 255");
+        int[] titles = {0, -1, 256, 257, Integer.MIN_VALUE, Integer.MAX_VALUE};
+        int[] ways = {0, 3, 0, 1, 0, 3};
+        for (int i = 0; i < titles.length; i++) {
+            BlockExchange x = new BlockExchange();
+            int low = Check.putBlock(x, 0, Check.folder(1, 9, 255, 9));
+            int absent = Check.nameOf(0, 2);
+            check.due("find " + titles[i] + " in a folder", x.find(0, low, titles[i]), -1);
+            for (int way = 0; way < 4; way++) {
+                int[] links = {low, low, low, low};
+                links[way] = absent;
+                int top = Check.putBlock(x, 0, Check.shard(15, links));
+                int due = way == ways[i] ? -2 : -1;
+                check.due("find " + titles[i] + ", way " + way + " is broken", x.find(0, top, titles[i]), due);
+                int one = Check.putBlock(x, 0, Check.shard(1 << way, absent));
+                check.due("find " + titles[i] + ", way " + way + " alone", x.find(0, one, titles[i]), due);
+            }
+        }
     }
 }

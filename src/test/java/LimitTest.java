@@ -22,6 +22,7 @@ public final class LimitTest {
         test.roomOfEachStore();
         test.lineAtFetch();
         test.lineAtRetry();
+        test.lineAtRetryOfMany();
         test.lineAtGive();
         test.lineAtWant();
         test.linksOfFile();
@@ -328,6 +329,26 @@ public final class LimitTest {
         x.deliver(23);
         x.deliver(23);
         check.due("state(0)", x.state(0), 2);
+    }
+
+    /** A message that is sent may be lost; it was sent, and its name is missing, all the same. */
+    private void lineAtRetryOfMany() {
+        check.part("24 messages wait: retry of three names");
+        for (int count = 20; count <= 24; count++) {
+            BlockExchange x = new BlockExchange();
+            int root = Check.putBlock(x, 0, Check.tree(1, 11, 1, 12, 1, 13));
+            x.fetch(0, 1, root);
+            for (int i = 0; i < count - 3; i++) {
+                x.fetch(2, 1, 3000 + i);
+            }
+            check.due("waiting()", x.waiting(), count);
+            check.due("retry(0)", x.retry(0), 3);
+            check.due("waiting()", x.waiting(), Math.min(24, count + 3));
+            for (int k = count; k < 24; k++) {
+                check.due("message " + k, x.message(k, 3), k < count + 3 ? 11 + k - count : -1);
+            }
+            check.due("state(0)", x.state(0), 1);
+        }
     }
 
     private void lineAtGive() {
